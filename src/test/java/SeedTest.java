@@ -1,0 +1,187 @@
+/** Promises 20 to 22: letters by a seed, images. */
+public final class SeedTest {
+    private static final String TEXT = "house;house wary;house;domain 0 0 1 2;domain 1 0;box 0 1;box 1 2;alias 0 3 1 2;"
+            + "list 1 0 0 1 0 3 1 2;";
+
+    public static void main(String[] args) {
+        refusedDraws();
+        knownSeed();
+        seeds();
+        drawsWhenFull();
+        wrongImages();
+        images();
+        imagesAreApart();
+        imageHasAll();
+        Checks.finish("SeedTest");
+    }
+
+    private static void refusedDraws() {
+        WaryHouses none = new WaryHouses();
+        Checks.due("draw(1, 1), no houses", none.draw(1, 1), Checks.STATE);
+        Checks.bad("draw, no houses", () -> none.draw(1, 0), () -> none.draw(1, 11));
+        WaryHouses x = Checks.told(1, "house;");
+        Checks.bad("draw", () -> x.draw(1, 0), () -> x.draw(1, 11), () -> x.draw(1, -1),
+                () -> x.draw(1, Integer.MIN_VALUE), () -> x.draw(1, Integer.MAX_VALUE));
+        Checks.due("rule(6)", x.rule(6), 0);
+    }
+
+    /** The first that this way of getting numbers gives by 1: 16838 5758 10113 17515 31051 5627 23010 7419 16212. */
+    private static void knownSeed() {
+        WaryHouses x = Checks.told(9, TEXT);
+        Checks.due("draw(1, 3)", x.draw(1, 3), 3);
+        int[][] want = {{2, 30, 1}, {1, 11, 27}, {0, 27, 20}};
+        for (int i = 0; i < want.length; i++) {
+            Checks.due("item(" + want[i][0] + ", 0, 0)", x.item(want[i][0], 0, 0), i);
+            Checks.due("item(" + want[i][0] + ", 0, 1)", x.item(want[i][0], 0, 1), want[i][1]);
+            Checks.due("item(" + want[i][0] + ", 0, 2)", x.item(want[i][0], 0, 2), want[i][2]);
+            Checks.due("log(" + i + ", 3)", x.log(i, 3), want[i][0]);
+            Checks.due("log(" + i + ", 0)", x.log(i, 0), 0);
+        }
+        Checks.due("rule(8)", x.rule(8), 3);
+    }
+
+    private static void seeds() {
+        int[] seeds = {0, -1, Integer.MIN_VALUE, Integer.MAX_VALUE, 123456789};
+        for (int seed : seeds) {
+            WaryHouses x = Checks.told(9, TEXT);
+            Checks.due("draw(" + seed + ", 10)", x.draw(seed, 10), 10);
+            long state = seed & 0xffffffffL;
+            for (int i = 0; i < 10; i++) {
+                int[] got = new int[3];
+                for (int j = 0; j < 3; j++) {
+                    state = state * 1103515245L + 12345L & 0xffffffffL;
+                    got[j] = (int) (state / 65536 % 32768);
+                }
+                Checks.due("log(" + i + ", 3) by " + seed, x.log(i, 3), got[0] % 3);
+                Checks.due("log(" + i + ", 4) by " + seed, x.log(i, 4), got[2] % 32);
+            }
+        }
+    }
+
+    private static void drawsWhenFull() {
+        WaryHouses x = Checks.told(9, TEXT);
+        for (int i = 0; i < 55; i++) {
+            x.send(0, 0, 0);
+        }
+        Checks.due("draw(7, 10), room for five", x.draw(7, 10), 5);
+        Checks.due("draw(7, 10), full", x.draw(7, 10), 0);
+        Checks.due("rule(6)", x.rule(6), 60);
+    }
+
+    private static void wrongImages() {
+        WaryHouses x = new WaryHouses();
+        Checks.bad("keep", () -> x.keep(-1), () -> x.keep(2), () -> x.keep(Integer.MAX_VALUE));
+        Checks.bad("back", () -> x.back(-1), () -> x.back(2), () -> x.back(Integer.MIN_VALUE));
+        Checks.due("back(0)", x.back(0), Checks.STATE);
+        Checks.due("back(1)", x.back(1), Checks.STATE);
+        Checks.due("keep(1) of a new object", x.keep(1), 0);
+        Checks.due("back(0)", x.back(0), Checks.STATE);
+        Checks.due("count(0)", x.count(0), 1);
+        Checks.due("back(1)", x.back(1), 0);
+    }
+
+    private static void images() {
+        WaryHouses x = Checks.told(9, TEXT);
+        x.draw(3, 10);
+        x.tick(2);
+        Checks.due("keep(0)", x.keep(0), 0);
+        Checks.due("keep(0)", x.keep(0), 1);
+        Checks.due("count(0)", x.count(0), 1);
+        int[] then = all(x);
+        x.feed('x');
+        x.sheet(0, 1, 5);
+        x.run(60);
+        x.set(1, 0);
+        int[] later = all(x);
+        Checks.due("keep(1)", x.keep(1), 0);
+        Checks.due("count(0)", x.count(0), 2);
+        Checks.due("back(0)", x.back(0), x.rule(7));
+        same("behind back(0)", then, all(x));
+        Checks.due("count(1), not of the image", x.count(1), 1);
+        Checks.due("count(2), not of the image", x.count(2), 5);
+        Checks.due("count(0), images stay", x.count(0), 2);
+        x.back(1);
+        same("behind back(1)", later, all(x));
+        x.back(0);
+        same("behind back(0) again", then, all(x));
+    }
+
+    /** What is done behind keep() or back() does not change the image. */
+    private static void imagesAreApart() {
+        WaryHouses x = Checks.told(9, TEXT);
+        x.draw(11, 10);
+        x.keep(0);
+        int[] then = all(x);
+        for (int i = 0; i < 3; i++) {
+            x.tick(4);
+            x.set(2, 0);
+            x.draw(i, 5);
+            x.tick(3);
+            Checks.due("back(0)", x.back(0), 10);
+            same("behind back(0), time " + i, then, all(x));
+        }
+    }
+
+    /** All goes on from an image as it went on from what it is an image of. */
+    private static void imageHasAll() {
+        for (int ticks = 1; ticks <= 20; ticks++) {
+            WaryHouses x = Checks.told(9, TEXT);
+            x.draw(ticks, 10);
+            for (int i = 0; i < 8; i++) {
+                x.send(2, i, 1);
+            }
+            x.tick(ticks);
+            x.set(1, ticks % 2);
+            x.keep(1);
+            x.tick(5);
+            int[] want = all(x);
+            x.draw(1, 10);
+            x.set(1, 1);
+            x.run(60);
+            x.back(1);
+            x.tick(5);
+            same("on from an image at " + ticks, want, all(x));
+        }
+    }
+
+    private static void same(String when, int[] want, int[] got) {
+        Checks.due("how many numbers " + when, got.length, want.length);
+        for (int i = 0; i < want.length; i++) {
+            Checks.due("number " + i + " of all " + when, got[i], want[i]);
+        }
+    }
+
+    /** All that can be asked of what is in an image. */
+    private static int[] all(WaryHouses x) {
+        java.util.ArrayList<Integer> all = new java.util.ArrayList<>();
+        for (int what = 0; what <= 17; what++) {
+            all.add(x.rule(what));
+        }
+        for (int h = 0; h < 3; h++) {
+            for (int what = 0; what <= 5; what++) {
+                all.add(x.house(h, what));
+            }
+            for (int i = 0; i < 60; i++) {
+                for (int what = 0; what <= 6; what++) {
+                    all.add(x.item(h, i, what));
+                }
+            }
+            for (int i = 0; i < 8; i++) {
+                for (int what = 0; what <= 4; what++) {
+                    all.add(x.stranger(h, i, what));
+                }
+            }
+        }
+        for (int a = 0; a < 32; a++) {
+            for (int what = 0; what <= 3; what++) {
+                all.add(x.address(a, what));
+            }
+        }
+        for (int i = 0; i < 60; i++) {
+            for (int what = 0; what <= 4; what++) {
+                all.add(x.log(i, what));
+            }
+        }
+        return all.stream().mapToInt(Integer::intValue).toArray();
+    }
+}
