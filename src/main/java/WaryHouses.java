@@ -560,6 +560,7 @@ public final class WaryHouses {
 
     /** The tape and what reads it: into a draft, so that a text with a fault leaves what was told. */
     private static final class Tape {
+        private static final int MOST_FIGURES = 2;
         private static final int END = 0, NAME = 1, NUMBER = 2, SIGN = 3;
         private static final int NO_TOKEN = 1, CAN_NOT_STAND = 2, OUT_OF_BOUNDS = 3, TWICE = 4, TOO_MANY = 5,
                 NO_HOUSE = 6, NO_DOMAIN = 7;
@@ -579,40 +580,25 @@ public final class WaryHouses {
         boolean readText() {
             draft.clear();
             next = 0;
-            lines = 0;
             found = NO_FAULT;
-            for (int left = length + 1; left > 0; left--) {
+            for (lines = 0; lines <= length; lines++) {
                 if (!readToken()) {
                     return false;
                 }
                 if (token == END) {
-                    break;
+                    return allIsThere();
                 }
-                if (!readLine()) {
+                boolean stands = isWord("house") ? readHouse()
+                        : isWord("domain") ? readDomain()
+                        : isWord("box") ? readBox()
+                        : isWord("alias") ? readAlias()
+                        : isWord("list") ? readList()
+                        : refuse(CAN_NOT_STAND);
+                if (!stands) {
                     return false;
                 }
-                lines++;
             }
             return allIsThere();
-        }
-
-        boolean readLine() {
-            if (isWord("house")) {
-                return readHouse();
-            }
-            if (isWord("domain")) {
-                return readDomain();
-            }
-            if (isWord("box")) {
-                return readTold(BOX) && readSign();
-            }
-            if (isWord("alias")) {
-                return readAlias();
-            }
-            if (isWord("list")) {
-                return readList();
-            }
-            return refuse(CAN_NOT_STAND);
         }
 
         boolean readHouse() {
@@ -674,6 +660,10 @@ public final class WaryHouses {
             }
             draft.tell(named, kind);
             return true;
+        }
+
+        boolean readBox() {
+            return readTold(BOX) && readSign();
         }
 
         boolean readAlias() {
@@ -739,17 +729,19 @@ public final class WaryHouses {
             return token == SIGN || refuse(CAN_NOT_STAND);
         }
 
+        /** Looked at behind the last line: what is told of houses and domains may stand ahead of them. */
         boolean allIsThere() {
+            start = length;
             for (int d = 0; d < draft.domains; d++) {
                 for (int i = 0; i < draft.receivers[d]; i++) {
                     if (draft.receiverHouse[d * MOST_RECEIVERS + i] >= draft.houses) {
-                        return refuseAt(NO_HOUSE, length);
+                        return refuse(NO_HOUSE);
                     }
                 }
             }
             for (int a = draft.domains * NAMES; a < ADDRESSES; a++) {
                 if (draft.kind[a] != UNKNOWN) {
-                    return refuseAt(NO_DOMAIN, length);
+                    return refuse(NO_DOMAIN);
                 }
             }
             return true;
@@ -760,38 +752,45 @@ public final class WaryHouses {
                 next++;
             }
             start = next;
-            if (next >= length) {
-                token = END;
+            token = next < length ? tokenOf(bytes[next]) : END;
+            if (token == END) {
                 return true;
             }
-            int c = bytes[next];
-            if (c == ';') {
-                token = SIGN;
+            if (token == NONE) {
+                return refuse(NO_TOKEN);
+            }
+            next++;
+            if (token == SIGN) {
+                return true;
+            }
+            while (next < length && tokenOf(bytes[next]) == token) {
                 next++;
-                return true;
             }
-            if (isLetter(c)) {
-                readName();
-                return true;
+            if (token == NUMBER) {
+                if (next - start > MOST_FIGURES) {
+                    return refuse(NO_TOKEN);
+                }
+                value = valueRead();
             }
-            return isFigure(c) ? readNumber() : refuse(NO_TOKEN);
+            return true;
         }
 
-        void readName() {
-            token = NAME;
-            while (next < length && isLetter(bytes[next])) {
-                next++;
+        static int tokenOf(int c) {
+            if (c >= 'a' && c <= 'z') {
+                return NAME;
             }
+            if (c >= '0' && c <= '9') {
+                return NUMBER;
+            }
+            return c == ';' ? SIGN : NONE;
         }
 
-        boolean readNumber() {
-            token = NUMBER;
-            value = 0;
-            while (next < length && isFigure(bytes[next])) {
-                value = value * 10 + bytes[next] - '0';
-                next++;
+        int valueRead() {
+            int read = 0;
+            for (int i = start; i < next; i++) {
+                read = read * 10 + bytes[i] - '0';
             }
-            return next - start <= 2 || refuse(NO_TOKEN);
+            return read;
         }
 
         boolean isWord(String word) {
@@ -807,21 +806,9 @@ public final class WaryHouses {
         }
 
         boolean refuse(int why) {
-            return refuseAt(why, start);
-        }
-
-        boolean refuseAt(int why, int where) {
             found = why;
-            place = where;
+            place = start;
             return false;
-        }
-
-        static boolean isLetter(int c) {
-            return c >= 'a' && c <= 'z';
-        }
-
-        static boolean isFigure(int c) {
-            return c >= '0' && c <= '9';
         }
     }
 
@@ -916,7 +903,7 @@ public final class WaryHouses {
 
     /** All items, as they came: the queue of a house is what of them is there, in the same order. */
     private static final class Mail {
-        /** Twice as many as may live: those that go leave their rows only behind the turn. */
+        /** Twice as many as may live: those that go in a turn (60 at most) leave their rows behind it. */
         final Item[] rows = new Item[2 * MOST_ITEMS];
         int used;
         int living;
@@ -940,30 +927,27 @@ public final class WaryHouses {
             living = other.living;
         }
 
-        void add(int at, int letter, int from, int to, int due) {
-            if (used < rows.length) {
-                Item item = rows[used];
-                item.at = at;
-                item.letter = letter;
-                item.from = from;
-                item.to = to;
-                item.tries = 0;
-                item.hops = 0;
-                item.due = due;
-                item.marks = 0;
-                used++;
-                living++;
-            }
+        Item add(int at, int letter, int from, int to, int due) {
+            int free = Math.min(used, rows.length - 1);
+            Item item = rows[free];
+            item.at = at;
+            item.letter = letter;
+            item.from = from;
+            item.to = to;
+            item.tries = 0;
+            item.hops = 0;
+            item.due = due;
+            item.marks = 0;
+            used = free + 1;
+            living++;
+            return item;
         }
 
         /** One more of the same letter, that has gone on by a hop. */
         void addOnward(Item of, int at, int to, int marks, int due) {
-            if (used < rows.length) {
-                Item item = rows[used];
-                add(at, of.letter, of.from, to, due);
-                item.hops = of.hops + 1;
-                item.marks = marks;
-            }
+            Item item = add(at, of.letter, of.from, to, due);
+            item.hops = of.hops + 1;
+            item.marks = marks;
         }
 
         void remove(Item item) {
@@ -1074,13 +1058,13 @@ public final class WaryHouses {
             held = other.held;
         }
 
-        void write(int deed, int clock, int letter, int at, int to) {
+        void write(int deed, int clock, Item item, int at) {
             int row = (first + held) % LATEST_LOG * COLUMNS;
             cells[row] = deed;
             cells[row + 1] = clock;
-            cells[row + 2] = letter;
+            cells[row + 2] = item.letter;
             cells[row + 3] = at;
-            cells[row + 4] = to;
+            cells[row + 4] = item.to;
             tally[deed]++;
             if (held < LATEST_LOG) {
                 held++;
@@ -1119,6 +1103,9 @@ public final class WaryHouses {
         boolean lets(int who, int from, int to, int clock) {
             int i = find(who, from, to);
             if (i == NONE) {
+                if (known >= MOST_STRANGERS) {
+                    forget(0);
+                }
                 putDown(who, from, to, clock);
                 return false;
             }
@@ -1146,9 +1133,6 @@ public final class WaryHouses {
         }
 
         void putDown(int who, int from, int to, int clock) {
-            if (known >= MOST_STRANGERS) {
-                forget(0);
-            }
             int row = known * COLUMNS;
             cells[row + WHO] = who;
             cells[row + FROM] = from;
@@ -1189,8 +1173,8 @@ public final class WaryHouses {
             }
             int letter = now.letters;
             now.letters++;
-            now.mail.add(h, letter, from, to, now.clock + 1);
-            now.book.write(SENT, now.clock, letter, h, to);
+            Item item = now.mail.add(h, letter, from, to, now.clock + 1);
+            now.book.write(SENT, now.clock, item, h);
             return letter;
         }
 
@@ -1231,14 +1215,14 @@ public final class WaryHouses {
             int d = item.to / NAMES;
             if (item.hops >= MOST_HOPS || !plan.hasReceivers(d)) {
                 bounce(item);
-            } else if (plan.isLast(item.at, d)) {
-                bringHome(item);
-            } else {
-                passOn(item, d);
+                return;
             }
-        }
-
-        void bringHome(Item item) {
+            if (!plan.isLast(item.at, d)) {
+                if (!passOn(item, d)) {
+                    tryLater(item);
+                }
+                return;
+            }
             switch (plan.kind[item.to]) {
                 case BOX:
                     give(item);
@@ -1257,16 +1241,16 @@ public final class WaryHouses {
 
         void give(Item item) {
             if (now.boxes.knows(item.to, item.letter)) {
-                note(DOUBLE, item, item.at);
+                now.book.write(DOUBLE, now.clock, item, item.at);
             } else {
                 now.boxes.put(item.to, item.letter, item.from);
-                note(GIVEN, item, item.at);
+                now.book.write(GIVEN, now.clock, item, item.at);
             }
             now.mail.remove(item);
         }
 
         void followAlias(Item item) {
-            note(BY_ALIAS, item, item.at);
+            now.book.write(BY_ALIAS, now.clock, item, item.at);
             item.to = plan.lead(item.to, 0);
             item.hops++;
             item.tries = 0;
@@ -1275,7 +1259,7 @@ public final class WaryHouses {
 
         void openList(Item item) {
             if (item.from == NONE) {
-                note(DEAD, item, item.at);
+                now.book.write(DEAD, now.clock, item, item.at);
                 now.mail.remove(item);
                 return;
             }
@@ -1286,7 +1270,7 @@ public final class WaryHouses {
                 item.due = now.clock + 1;
                 return;
             }
-            note(OPENED, item, item.at);
+            now.book.write(OPENED, now.clock, item, item.at);
             for (int i = 0; i < plan.leadCount[list]; i++) {
                 int to = plan.lead(list, i);
                 if ((marks >>> to & 1) == 0) {
@@ -1307,24 +1291,22 @@ public final class WaryHouses {
             return n;
         }
 
-        void passOn(Item item, int d) {
+        /** Whether one of those that are asked takes it. */
+        boolean passOn(Item item, int d) {
             for (int i = 0; i < MOST_RECEIVERS; i++) {
                 int h = plan.asked(item.at, d, i);
                 if (h == NONE) {
-                    break;
+                    return false;
                 }
-                if (now.up[h] == 1 && takes(h, item)) {
-                    note(WENT, item, h);
+                if (now.up[h] == 1 && (plan.wary[h] == 0
+                        || now.strangers[h].lets(item.at, item.from, item.to, now.clock))) {
+                    now.book.write(WENT, now.clock, item, h);
                     now.mail.addOnward(item, h, item.to, item.marks, now.clock + 1);
                     now.mail.remove(item);
-                    return;
+                    return true;
                 }
             }
-            tryLater(item);
-        }
-
-        boolean takes(int h, Item item) {
-            return plan.wary[h] == 0 || now.strangers[h].lets(item.at, item.from, item.to, now.clock);
+            return false;
         }
 
         void tryLater(Item item) {
@@ -1333,23 +1315,19 @@ public final class WaryHouses {
                 bounce(item);
                 return;
             }
-            note(TRIED, item, item.at);
+            now.book.write(TRIED, now.clock, item, item.at);
             item.due = now.clock + (1 << (item.tries - 1));
         }
 
         void bounce(Item item) {
             if (item.from == NONE) {
-                note(DEAD, item, item.at);
+                now.book.write(DEAD, now.clock, item, item.at);
             } else {
-                note(BOUNCED, item, item.at);
+                now.book.write(BOUNCED, now.clock, item, item.at);
                 now.mail.add(item.at, now.letters, NONE, item.from, now.clock + 1);
                 now.letters++;
             }
             now.mail.remove(item);
-        }
-
-        void note(int deed, Item item, int at) {
-            now.book.write(deed, now.clock, item.letter, at, item.to);
         }
     }
 
