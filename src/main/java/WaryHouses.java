@@ -824,7 +824,6 @@ public final class WaryHouses {
         final Strangers[] strangers = new Strangers[MOST_HOUSES];
 
         Round() {
-            Arrays.fill(up, 1);
             for (int h = 0; h < MOST_HOUSES; h++) {
                 strangers[h] = new Strangers();
             }

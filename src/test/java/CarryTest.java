@@ -211,6 +211,22 @@ public final class CarryTest {
         Checks.due("rule(16)", x.rule(16), 1);
         Checks.due("rule(7)", x.rule(7), 0);
         aLog(x, 11, 8, 2, 7, 0, 5);
+        allBounceAtOnce();
+    }
+
+    private static void allBounceAtOnce() {
+        WaryHouses x = Checks.told(3, "house;domain 0 0;box 0 0;");
+        for (int i = 0; i < 60; i++) {
+            x.send(0, 0, 1);
+        }
+        Checks.due("tick(1)", x.tick(1), 0);
+        Checks.due("rule(7)", x.rule(7), 60);
+        for (int i = 0; i < 60; i++) {
+            anItem(x, 0, i, 60 + i, Checks.NONE, 0, 0, 0, 2, 0);
+        }
+        Checks.due("send(0, 0, 0)", x.send(0, 0, 0), Checks.FULL);
+        Checks.due("tick(1)", x.tick(1), 60);
+        Checks.due("rule(7)", x.rule(7), 0);
     }
 
     private static void hopsAreEight() {
@@ -261,6 +277,27 @@ public final class CarryTest {
         Checks.due("rule(15)", x.rule(15), 2);
         Checks.due("rule(16)", x.rule(16), 1);
         Checks.due("rule(7)", x.rule(7), 0);
+        for (int i = 0; i < 9; i++) {
+            x.send(0, 4, 0);
+            anItem(x, 0, i, i + 4, 4, 0, 0, 0, 6, 0);
+        }
+        listByAlias();
+    }
+
+    /** A list that an alias leads back to opens again, but it is one mark. */
+    private static void listByAlias() {
+        WaryHouses x = Checks.told(5, "house;domain 0 0;box 0 0;list 0 1 0 0 0 2;alias 0 2 0 1;");
+        x.send(0, 4, 1);
+        x.tick(2);
+        anItem(x, 0, 0, 0, 4, 1, 0, 2, 3, 1);
+        x.tick(1);
+        anItem(x, 0, 0, 0, 4, 0, 0, 3, 4, 1);
+        anItem(x, 0, 1, 0, 4, 2, 0, 3, 4, 1);
+        Checks.due("rule(13)", x.rule(13), 2);
+        Checks.due("run(60)", x.run(60), 7);
+        Checks.due("rule(10)", x.rule(10), 1);
+        Checks.due("rule(11)", x.rule(11), 3);
+        Checks.due("rule(13)", x.rule(13), 4);
     }
 
     /** A list of three, one of which is marked, waits while there are more than 60 behind it. */
@@ -431,6 +468,27 @@ public final class CarryTest {
         aStranger(y, 1, 0, 0, 11, 1, 22, 0);
         aStranger(y, 1, 7, 0, 18, 2, 23, 0);
         Checks.due("stranger(1, 8, 0)", y.stranger(1, 8, 0), Checks.NONE);
+        anewAmongOthers();
+    }
+
+    /** The one in the midst is put down anew: it is the last then, and not passed as the last one was. */
+    private static void anewAmongOthers() {
+        WaryHouses x = Checks.told(5, "house;house wary;house;domain 1 0;box 0 0;");
+        x.send(0, 10, 0);
+        x.send(2, 11, 0);
+        x.send(0, 12, 0);
+        x.tick(1);
+        x.set(2, 0);
+        x.tick(3);
+        Checks.due("house(1, 4)", x.house(1, 4), 2);
+        x.tick(17);
+        x.set(2, 1);
+        x.tick(1);
+        Checks.due("house(1, 3)", x.house(1, 3), 3);
+        aStranger(x, 1, 0, 0, 10, 0, 1, 1);
+        aStranger(x, 1, 1, 0, 12, 0, 1, 1);
+        aStranger(x, 1, 2, 2, 11, 0, 22, 0);
+        Checks.due("house(1, 4)", x.house(1, 4), 2);
     }
 
     /** What stays keeps its place; what comes to the house itself is behind all and waits for the next tick. */

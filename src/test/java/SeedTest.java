@@ -12,6 +12,7 @@ public final class SeedTest {
         images();
         imagesAreApart();
         imageHasAll();
+        imageOfTheFirstHouse();
         Checks.finish("SeedTest");
     }
 
@@ -23,6 +24,8 @@ public final class SeedTest {
         Checks.bad("draw", () -> x.draw(1, 0), () -> x.draw(1, 11), () -> x.draw(1, -1),
                 () -> x.draw(1, Integer.MIN_VALUE), () -> x.draw(1, Integer.MAX_VALUE));
         Checks.due("rule(6)", x.rule(6), 0);
+        Checks.due("draw(1, 1), one house", x.draw(1, 1), 1);
+        Checks.due("item(0, 0, 2)", x.item(0, 0, 2), 1);
     }
 
     /** The first that this way of getting numbers gives by 1: 16838 5758 10113 17515 31051 5627 23010 7419 16212. */
@@ -142,6 +145,20 @@ public final class SeedTest {
             x.tick(5);
             same("on from an image at " + ticks, want, all(x));
         }
+    }
+
+    /** The strangers of the first house, too. */
+    private static void imageOfTheFirstHouse() {
+        WaryHouses x = Checks.told(4, "house wary;house;domain 0 0;box 0 0;");
+        x.keep(0);
+        x.send(1, 7, 0);
+        x.tick(1);
+        x.keep(1);
+        x.back(0);
+        Checks.due("house(0, 3) of none", x.house(0, 3), 0);
+        x.back(1);
+        Checks.due("house(0, 3)", x.house(0, 3), 1);
+        Checks.due("stranger(0, 0, 1)", x.stranger(0, 0, 1), 7);
     }
 
     private static void same(String when, int[] want, int[] got) {

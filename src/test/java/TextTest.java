@@ -98,6 +98,10 @@ public final class TextTest {
     private static void canNotStand() {
         Checks.refused("hous;", 2, 0);
         Checks.refused("houses;", 2, 0);
+        Checks.refused("mouse;", 2, 0);
+        Checks.refused("horse;", 2, 0);
+        Checks.refused("housf;", 2, 0);
+        Checks.refused("az;", 2, 0);
         Checks.refused("housewary;", 2, 0);
         Checks.refused("wary;", 2, 0);
         Checks.refused(";", 2, 0);
@@ -232,6 +236,8 @@ public final class TextTest {
         x.set(1, 0);
         x.keep(0);
         x.sheet(0, 0, 7);
+        x.send(0, 1, 1);
+        Checks.due("house(0, 2)", x.house(0, 2), 1);
         Checks.due("house(0, 3)", x.house(0, 3), 1);
         Checks.due("address(1, 1)", x.address(1, 1), 3);
         Checks.due("text()", Checks.tell(x, "house;house wary;domain 0 0;box 0 1;"), 4);
