@@ -1,6 +1,7 @@
 /** Promises 12 to 19 but 17: letters on their way, how they are handled, and what is told of it. */
 public final class CarryTest {
     public static void main(String[] args) {
+        Checks.begin("CarryTest");
         sending();
         full();
         ticking();
@@ -20,24 +21,6 @@ public final class CarryTest {
         Checks.finish("CarryTest");
     }
 
-    private static void anItem(WaryHouses x, int h, int i, int... want) {
-        for (int what = 0; what < want.length; what++) {
-            Checks.due("item(" + h + ", " + i + ", " + what + ")", x.item(h, i, what), want[what]);
-        }
-    }
-
-    private static void aLog(WaryHouses x, int i, int... want) {
-        for (int what = 0; what < want.length; what++) {
-            Checks.due("log(" + i + ", " + what + ")", x.log(i, what), want[what]);
-        }
-    }
-
-    private static void aStranger(WaryHouses x, int h, int i, int... want) {
-        for (int what = 0; what < want.length; what++) {
-            Checks.due("stranger(" + h + ", " + i + ", " + what + ")", x.stranger(h, i, what), want[what]);
-        }
-    }
-
     private static void sending() {
         WaryHouses x = Checks.told(3, "house;domain 0 0;box 0 0;");
         Checks.bad("send", () -> x.send(-1, 0, 0), () -> x.send(1, 0, 0), () -> x.send(0, -1, 0),
@@ -46,10 +29,10 @@ public final class CarryTest {
         Checks.due("rule(6)", x.rule(6), 0);
         Checks.due("send(0, 31, 0)", x.send(0, 31, 0), 0);
         Checks.due("send(0, 0, 31)", x.send(0, 0, 31), 1);
-        anItem(x, 0, 0, 0, 31, 0, 0, 0, 1, 0);
-        anItem(x, 0, 1, 1, 0, 31, 0, 0, 1, 0);
-        aLog(x, 0, 0, 0, 0, 0, 0);
-        aLog(x, 1, 0, 0, 1, 0, 31);
+        Checks.item(x, 0, 0, 0, 31, 0, 0, 0, 1, 0);
+        Checks.item(x, 0, 1, 1, 0, 31, 0, 0, 1, 0);
+        Checks.log(x, 0, 0, 0, 0, 0, 0);
+        Checks.log(x, 1, 0, 0, 1, 0, 31);
         Checks.due("item(0, 2, 0)", x.item(0, 2, 0), Checks.NONE);
         Checks.bad("item", () -> x.item(-1, 0, 0), () -> x.item(1, 0, 0), () -> x.item(0, -1, 0),
                 () -> x.item(0, 0, -1), () -> x.item(0, 0, 7), () -> x.item(0, 9, 7));
@@ -57,7 +40,7 @@ public final class CarryTest {
         Checks.bad("log", () -> x.log(-1, 0), () -> x.log(0, -1), () -> x.log(0, 5), () -> x.log(9, 5));
         Checks.due("tick(1)", x.tick(1), 1);
         Checks.due("send(0, 1, 0)", x.send(0, 1, 0), 3);
-        anItem(x, 0, 1, 3, 1, 0, 0, 0, 2, 0);
+        Checks.item(x, 0, 1, 3, 1, 0, 0, 0, 2, 0);
     }
 
     private static void full() {
@@ -96,7 +79,7 @@ public final class CarryTest {
         Checks.due("tick(1)", x.tick(1), 0);
         Checks.due("rule(5)", x.rule(5), 21);
         Checks.due("rule(10)", x.rule(10), 1);
-        aLog(x, 1, 2, 1, 0, 0, 0);
+        Checks.log(x, 1, 2, 1, 0, 0, 0);
     }
 
     private static void running() {
@@ -109,8 +92,8 @@ public final class CarryTest {
         Checks.due("run(60)", x.run(60), 1);
         Checks.due("rule(5)", x.rule(5), 2);
         Checks.due("rule(12)", x.rule(12), 1);
-        aLog(x, 1, 4, 1, 0, 0, 1);
-        aLog(x, 2, 2, 2, 0, 0, 0);
+        Checks.log(x, 1, 4, 1, 0, 0, 1);
+        Checks.log(x, 2, 2, 2, 0, 0, 0);
         x.send(0, 0, 0);
         x.set(0, 0);
         Checks.due("run(60), down", x.run(60), 60);
@@ -127,7 +110,7 @@ public final class CarryTest {
         Checks.due("house(1, 1)", x.house(1, 1), 1);
         Checks.due("send(0, 0, 0) to a house that is down", x.send(0, 0, 0), 0);
         Checks.due("tick(5)", x.tick(5), 0);
-        anItem(x, 0, 0, 0, 0, 0, 0, 0, 1, 0);
+        Checks.item(x, 0, 0, 0, 0, 0, 0, 0, 1, 0);
         Checks.due("set(0, 1)", x.set(0, 1), 0);
         Checks.due("set(0, 1)", x.set(0, 1), 1);
         Checks.due("tick(1)", x.tick(1), 1);
@@ -140,20 +123,20 @@ public final class CarryTest {
         x.send(1, 9, 3);
         x.send(2, 3, 9);
         Checks.due("tick(1)", x.tick(1), 0);
-        anItem(x, 2, 0, 0, 9, 3, 0, 1, 2, 0);
-        anItem(x, 2, 1, 1, 9, 3, 0, 1, 2, 0);
-        anItem(x, 0, 0, 2, 3, 9, 0, 1, 2, 0);
-        aLog(x, 3, 1, 1, 0, 2, 3);
-        aLog(x, 4, 1, 1, 1, 2, 3);
-        aLog(x, 5, 1, 1, 2, 0, 9);
+        Checks.item(x, 2, 0, 0, 9, 3, 0, 1, 2, 0);
+        Checks.item(x, 2, 1, 1, 9, 3, 0, 1, 2, 0);
+        Checks.item(x, 0, 0, 2, 3, 9, 0, 1, 2, 0);
+        Checks.log(x, 3, 1, 1, 0, 2, 3);
+        Checks.log(x, 4, 1, 1, 1, 2, 3);
+        Checks.log(x, 5, 1, 1, 2, 0, 9);
         Checks.due("rule(9)", x.rule(9), 3);
         x.set(2, 0);
         x.send(0, 9, 3);
         x.send(1, 9, 3);
         Checks.due("tick(1), the first is down", x.tick(1), 0);
-        anItem(x, 0, 0, 5, Checks.NONE, 3, 0, 0, 3, 0);
-        anItem(x, 1, 0, 4, 9, 3, 1, 0, 3, 0);
-        anItem(x, 1, 1, 3, 9, 3, 0, 1, 3, 0);
+        Checks.item(x, 0, 0, 5, Checks.NONE, 3, 0, 0, 3, 0);
+        Checks.item(x, 1, 0, 4, 9, 3, 1, 0, 3, 0);
+        Checks.item(x, 1, 1, 3, 9, 3, 0, 1, 3, 0);
         Checks.due("house(0, 2)", x.house(0, 2), 1);
         Checks.due("house(1, 2)", x.house(1, 2), 2);
         Checks.due("house(2, 2)", x.house(2, 2), 2);
@@ -167,23 +150,23 @@ public final class CarryTest {
         int[] tries = {1, 2, 2, 3, 3, 3, 3, 4, 4, 4, 4, 4, 4, 4, 4};
         for (int i = 0; i < due.length; i++) {
             Checks.due("tick(1)", x.tick(1), 0);
-            anItem(x, 0, 0, 0, 9, 0, tries[i], 0, due[i], 0);
+            Checks.item(x, 0, 0, 0, 9, 0, tries[i], 0, due[i], 0);
         }
         Checks.due("rule(14)", x.rule(14), 4);
-        aLog(x, 1, 6, 1, 0, 0, 0);
-        aLog(x, 4, 6, 8, 0, 0, 0);
+        Checks.log(x, 1, 6, 1, 0, 0, 0);
+        Checks.log(x, 4, 6, 8, 0, 0, 0);
         Checks.due("log(5, 0)", x.log(5, 0), Checks.NONE);
         x.tick(1);
         Checks.due("rule(14) behind the 5th", x.rule(14), 4);
         Checks.due("rule(15)", x.rule(15), 1);
-        aLog(x, 5, 7, 16, 0, 0, 0);
-        anItem(x, 0, 0, 1, Checks.NONE, 9, 0, 0, 17, 0);
+        Checks.log(x, 5, 7, 16, 0, 0, 0);
+        Checks.item(x, 0, 0, 1, Checks.NONE, 9, 0, 0, 17, 0);
         x.send(0, 9, 0);
         x.tick(2);
-        anItem(x, 0, 0, 2, 9, 0, 2, 0, 20, 0);
+        Checks.item(x, 0, 0, 2, 9, 0, 2, 0, 20, 0);
         x.set(1, 1);
         x.tick(2);
-        anItem(x, 1, 0, 2, 9, 0, 0, 1, 21, 0);
+        Checks.item(x, 1, 0, 2, 9, 0, 0, 1, 21, 0);
         Checks.due("tick(1)", x.tick(1), 1);
     }
 
@@ -199,10 +182,10 @@ public final class CarryTest {
         Checks.due("rule(6)", x.rule(6), 8);
         Checks.due("rule(7)", x.rule(7), 4);
         Checks.due("rule(8)", x.rule(8), 4);
-        anItem(x, 0, 0, 4, Checks.NONE, 0, 0, 0, 2, 0);
-        anItem(x, 0, 3, 7, Checks.NONE, 5, 0, 0, 2, 0);
-        aLog(x, 4, 7, 1, 0, 0, 1);
-        aLog(x, 6, 7, 1, 2, 0, 31);
+        Checks.item(x, 0, 0, 4, Checks.NONE, 0, 0, 0, 2, 0);
+        Checks.item(x, 0, 3, 7, Checks.NONE, 5, 0, 0, 2, 0);
+        Checks.log(x, 4, 7, 1, 0, 0, 1);
+        Checks.log(x, 6, 7, 1, 2, 0, 31);
         Checks.due("log(8, 0)", x.log(8, 0), Checks.NONE);
         Checks.due("tick(1)", x.tick(1), 3);
         Checks.due("address(0, 2)", x.address(0, 2), 6);
@@ -210,7 +193,7 @@ public final class CarryTest {
         Checks.due("rule(15)", x.rule(15), 4);
         Checks.due("rule(16)", x.rule(16), 1);
         Checks.due("rule(7)", x.rule(7), 0);
-        aLog(x, 11, 8, 2, 7, 0, 5);
+        Checks.log(x, 11, 8, 2, 7, 0, 5);
         allBounceAtOnce();
     }
 
@@ -222,7 +205,7 @@ public final class CarryTest {
         Checks.due("tick(1)", x.tick(1), 0);
         Checks.due("rule(7)", x.rule(7), 60);
         for (int i = 0; i < 60; i++) {
-            anItem(x, 0, i, 60 + i, Checks.NONE, 0, 0, 0, 2, 0);
+            Checks.item(x, 0, i, 60 + i, Checks.NONE, 0, 0, 0, 2, 0);
         }
         Checks.due("send(0, 0, 0)", x.send(0, 0, 0), Checks.FULL);
         Checks.due("tick(1)", x.tick(1), 60);
@@ -234,7 +217,7 @@ public final class CarryTest {
         loop.send(0, 3, 0);
         loop.tick(8);
         Checks.due("rule(12)", loop.rule(12), 8);
-        anItem(loop, 0, 0, 0, 3, 0, 0, 8, 9, 0);
+        Checks.item(loop, 0, 0, 0, 3, 0, 0, 8, 9, 0);
         loop.tick(1);
         Checks.due("rule(12)", loop.rule(12), 8);
         Checks.due("rule(15)", loop.rule(15), 1);
@@ -247,7 +230,7 @@ public final class CarryTest {
         chain.send(0, 9, 7);
         Checks.due("tick(9) by eight aliases", chain.tick(9), 0);
         Checks.due("rule(15)", chain.rule(15), 1);
-        anItem(chain, 0, 0, 2, Checks.NONE, 9, 0, 0, 18, 0);
+        Checks.item(chain, 0, 0, 2, Checks.NONE, 9, 0, 0, 18, 0);
     }
 
     private static void opening() {
@@ -258,15 +241,15 @@ public final class CarryTest {
         Checks.due("rule(13)", x.rule(13), 1);
         Checks.due("rule(17)", x.rule(17), 3);
         Checks.due("house(0, 2)", x.house(0, 2), 3);
-        anItem(x, 0, 0, 0, 4, 0, 0, 1, 2, 1);
-        anItem(x, 0, 1, 0, 4, 2, 0, 1, 2, 1);
-        anItem(x, 0, 2, 0, 4, 24, 0, 1, 2, 1);
-        aLog(x, 1, 5, 1, 0, 0, 1);
+        Checks.item(x, 0, 0, 0, 4, 0, 0, 1, 2, 1);
+        Checks.item(x, 0, 1, 0, 4, 2, 0, 1, 2, 1);
+        Checks.item(x, 0, 2, 0, 4, 24, 0, 1, 2, 1);
+        Checks.log(x, 1, 5, 1, 0, 0, 1);
         Checks.due("tick(1)", x.tick(1), 1);
         Checks.due("rule(13)", x.rule(13), 2);
         Checks.due("rule(17)", x.rule(17), 4);
-        anItem(x, 0, 0, 0, 4, 3, 0, 2, 3, 2);
-        anItem(x, 0, 1, 1, Checks.NONE, 4, 0, 0, 3, 0);
+        Checks.item(x, 0, 0, 0, 4, 3, 0, 2, 3, 2);
+        Checks.item(x, 0, 1, 1, Checks.NONE, 4, 0, 0, 3, 0);
         Checks.due("tick(1)", x.tick(1), 1);
         Checks.due("rule(13), one of none", x.rule(13), 3);
         Checks.due("rule(17)", x.rule(17), 4);
@@ -279,7 +262,7 @@ public final class CarryTest {
         Checks.due("rule(7)", x.rule(7), 0);
         for (int i = 0; i < 9; i++) {
             x.send(0, 4, 0);
-            anItem(x, 0, i, i + 4, 4, 0, 0, 0, 6, 0);
+            Checks.item(x, 0, i, i + 4, 4, 0, 0, 0, 6, 0);
         }
         listByAlias();
     }
@@ -289,10 +272,10 @@ public final class CarryTest {
         WaryHouses x = Checks.told(5, "house;domain 0 0;box 0 0;list 0 1 0 0 0 2;alias 0 2 0 1;");
         x.send(0, 4, 1);
         x.tick(2);
-        anItem(x, 0, 0, 0, 4, 1, 0, 2, 3, 1);
+        Checks.item(x, 0, 0, 0, 4, 1, 0, 2, 3, 1);
         x.tick(1);
-        anItem(x, 0, 0, 0, 4, 0, 0, 3, 4, 1);
-        anItem(x, 0, 1, 0, 4, 2, 0, 3, 4, 1);
+        Checks.item(x, 0, 0, 0, 4, 0, 0, 3, 4, 1);
+        Checks.item(x, 0, 1, 0, 4, 2, 0, 3, 4, 1);
         Checks.due("rule(13)", x.rule(13), 2);
         Checks.due("run(60)", x.run(60), 7);
         Checks.due("rule(10)", x.rule(10), 1);
@@ -310,10 +293,10 @@ public final class CarryTest {
         }
         x.tick(1);
         Checks.due("rule(13)", x.rule(13), 0);
-        anItem(x, 0, 0, 0, 7, 1, 0, 0, 2, 0);
+        Checks.item(x, 0, 0, 0, 7, 1, 0, 0, 2, 0);
         Checks.due("log(59, 0): nothing is told of it", x.log(59, 0), Checks.NONE);
         x.tick(3);
-        anItem(x, 0, 0, 0, 7, 1, 0, 0, 5, 0);
+        Checks.item(x, 0, 0, 0, 7, 1, 0, 0, 5, 0);
         x.send(0, 5, 0);
         Checks.due("tick(1)", x.tick(1), 1);
         Checks.due("rule(7)", x.rule(7), 59);
@@ -355,7 +338,7 @@ public final class CarryTest {
         while (x.log(last + 1, 0) != Checks.NONE) {
             last++;
         }
-        aLog(x, last, again == 1 ? 2 : 3, x.rule(5), 0, 0, 0);
+        Checks.log(x, last, again == 1 ? 2 : 3, x.rule(5), 0, 0, 0);
     }
 
     private static void waryHouse() {
@@ -363,25 +346,25 @@ public final class CarryTest {
         x.send(0, 3, 0);
         x.tick(1);
         Checks.due("house(1, 3)", x.house(1, 3), 1);
-        aStranger(x, 1, 0, 0, 3, 0, 1, 0);
+        Checks.stranger(x, 1, 0, 0, 3, 0, 1, 0);
         Checks.due("stranger(1, 1, 0)", x.stranger(1, 1, 0), Checks.NONE);
         Checks.due("stranger(0, 0, 0)", x.stranger(0, 0, 0), Checks.NONE);
         Checks.bad("stranger", () -> x.stranger(-1, 0, 0), () -> x.stranger(2, 0, 0), () -> x.stranger(1, -1, 0),
                 () -> x.stranger(1, 0, -1), () -> x.stranger(1, 0, 5), () -> x.stranger(1, 9, 5));
         x.tick(2);
-        anItem(x, 0, 0, 0, 3, 0, 2, 0, 4, 0);
+        Checks.item(x, 0, 0, 0, 3, 0, 2, 0, 4, 0);
         Checks.due("house(1, 4)", x.house(1, 4), 0);
         x.tick(1);
-        anItem(x, 1, 0, 0, 3, 0, 0, 1, 5, 0);
+        Checks.item(x, 1, 0, 0, 3, 0, 0, 1, 5, 0);
         Checks.due("house(1, 4)", x.house(1, 4), 1);
-        aStranger(x, 1, 0, 0, 3, 0, 1, 1);
+        Checks.stranger(x, 1, 0, 0, 3, 0, 1, 1);
         x.send(0, 3, 0);
         x.send(0, 4, 0);
         Checks.due("tick(1)", x.tick(1), 1);
-        anItem(x, 1, 0, 1, 3, 0, 0, 1, 6, 0);
-        anItem(x, 0, 0, 2, 4, 0, 1, 0, 6, 0);
+        Checks.item(x, 1, 0, 1, 3, 0, 0, 1, 6, 0);
+        Checks.item(x, 0, 0, 2, 4, 0, 1, 0, 6, 0);
         Checks.due("house(1, 3)", x.house(1, 3), 2);
-        aStranger(x, 1, 1, 0, 4, 0, 5, 0);
+        Checks.stranger(x, 1, 1, 0, 4, 0, 5, 0);
         x.set(0, 0);
         x.tick(20);
         x.set(0, 1);
@@ -389,8 +372,8 @@ public final class CarryTest {
         Checks.due("rule(5)", x.rule(5), 25);
         x.tick(1);
         Checks.due("item(1, 0, 0), known and passed long ago", x.item(1, 0, 0), 3);
-        aStranger(x, 1, 0, 0, 3, 0, 1, 1);
-        aStranger(x, 1, 1, 0, 4, 0, 26, 0);
+        Checks.stranger(x, 1, 0, 0, 3, 0, 1, 1);
+        Checks.stranger(x, 1, 1, 0, 4, 0, 26, 0);
         waitingFor(20, 1);
         waitingFor(21, 0);
         waitingFor(3, 1);
@@ -410,7 +393,7 @@ public final class CarryTest {
         x.set(0, 1);
         x.tick(1);
         Checks.due("house(1, 2) behind " + ago, x.house(1, 2), passed);
-        aStranger(x, 1, 0, 0, 3, 0, ago > 20 ? 1 + ago : 1, passed);
+        Checks.stranger(x, 1, 0, 0, 3, 0, ago > 20 ? 1 + ago : 1, passed);
     }
 
     private static void downWaryHousePutsNoneDown() {
@@ -423,7 +406,7 @@ public final class CarryTest {
         x.set(1, 1);
         x.tick(1);
         Checks.due("house(1, 3)", x.house(1, 3), 1);
-        aStranger(x, 1, 0, 2, 3, 0, 2, 0);
+        Checks.stranger(x, 1, 0, 2, 3, 0, 2, 0);
     }
 
     /** Eight are known; by the ninth the oldest goes; one that is put down anew is the latest. */
@@ -442,11 +425,11 @@ public final class CarryTest {
         x.tick(1);
         x.set(1, 1);
         Checks.due("rule(5)", x.rule(5), 23);
-        aStranger(x, 1, 0, 0, 10, 0, 1, 0);
+        Checks.stranger(x, 1, 0, 0, 10, 0, 1, 0);
         x.tick(2);
         Checks.due("house(1, 3)", x.house(1, 3), 8);
         for (int i = 0; i < 8; i++) {
-            aStranger(x, 1, i, 0, 10 + i, 0, 25, 0);
+            Checks.stranger(x, 1, i, 0, 10 + i, 0, 25, 0);
         }
         WaryHouses y = Checks.told(4, "house;house wary;domain 1 0;box 0 0;");
         y.send(0, 10, 0);
@@ -460,13 +443,13 @@ public final class CarryTest {
         y.set(0, 1);
         y.tick(1);
         Checks.due("house(1, 3)", y.house(1, 3), 8);
-        aStranger(y, 1, 0, 0, 10, 0, 22, 0);
-        aStranger(y, 1, 1, 0, 11, 1, 22, 0);
+        Checks.stranger(y, 1, 0, 0, 10, 0, 22, 0);
+        Checks.stranger(y, 1, 1, 0, 11, 1, 22, 0);
         y.send(0, 18, 2);
         y.tick(1);
         Checks.due("house(1, 3)", y.house(1, 3), 8);
-        aStranger(y, 1, 0, 0, 11, 1, 22, 0);
-        aStranger(y, 1, 7, 0, 18, 2, 23, 0);
+        Checks.stranger(y, 1, 0, 0, 11, 1, 22, 0);
+        Checks.stranger(y, 1, 7, 0, 18, 2, 23, 0);
         Checks.due("stranger(1, 8, 0)", y.stranger(1, 8, 0), Checks.NONE);
         anewAmongOthers();
     }
@@ -485,9 +468,9 @@ public final class CarryTest {
         x.set(2, 1);
         x.tick(1);
         Checks.due("house(1, 3)", x.house(1, 3), 3);
-        aStranger(x, 1, 0, 0, 10, 0, 1, 1);
-        aStranger(x, 1, 1, 0, 12, 0, 1, 1);
-        aStranger(x, 1, 2, 2, 11, 0, 22, 0);
+        Checks.stranger(x, 1, 0, 0, 10, 0, 1, 1);
+        Checks.stranger(x, 1, 1, 0, 12, 0, 1, 1);
+        Checks.stranger(x, 1, 2, 2, 11, 0, 22, 0);
         Checks.due("house(1, 4)", x.house(1, 4), 2);
     }
 
@@ -519,14 +502,14 @@ public final class CarryTest {
         Checks.due("log(60, 2)", x.log(60, 2), Checks.NONE);
         x.set(0, 1);
         x.tick(1);
-        aLog(x, 0, 2, 1, 0, 0, 0);
-        aLog(x, 1, 7, 1, 1, 0, 1);
-        aLog(x, 59, 7, 1, 59, 0, 3);
+        Checks.log(x, 0, 2, 1, 0, 0, 0);
+        Checks.log(x, 1, 7, 1, 1, 0, 1);
+        Checks.log(x, 59, 7, 1, 59, 0, 3);
         Checks.due("log(60, 0)", x.log(60, 0), Checks.NONE);
         x.send(0, 0, 0);
         Checks.due("rule(6)", x.rule(6), 113);
-        aLog(x, 0, 7, 1, 1, 0, 1);
-        aLog(x, 59, 0, 1, 112, 0, 0);
+        Checks.log(x, 0, 7, 1, 1, 0, 1);
+        Checks.log(x, 59, 0, 1, 112, 0, 0);
         Checks.due("rule(8)", x.rule(8), 61);
     }
 }

@@ -14,6 +14,7 @@ public final class FaceTest {
         "log 2", "draw 2", "keep 1", "back 1", "sheet 3", "lay 3", "post 4", "count 1"};
 
     public static void main(String[] args) throws Exception {
+        Checks.begin("FaceTest");
         members();
         constants();
         classesInside();
@@ -114,7 +115,7 @@ public final class FaceTest {
         }
     }
 
-    /** Every call with every sort of number, in states that these very calls make. */
+    /** Every call with every sort of number, in states that these very calls make; 512 calls on an object at most. */
     private static void noCallThrows() throws Exception {
         Random random = new Random(1);
         Method[] calls = java.util.Arrays.stream(WaryHouses.class.getDeclaredMethods())
@@ -122,10 +123,10 @@ public final class FaceTest {
                 .sorted(java.util.Comparator.comparing(Method::getName)).toArray(Method[]::new);
         String[] texts = {"", "house;", "house wary;house;domain 0 0 1 1;box 0 0;list 0 1 0 0 0 1;alias 0 2 0 1;",
             "house wary;house wary;house;domain 2 3 0 1;domain 1 0;domain;list 0 0 0 0 0 1 1 0 3 7;box 1 0;box 0 1;"};
-        for (int run = 0; run < 400; run++) {
+        for (int run = 0; run < 800; run++) {
             WaryHouses x = new WaryHouses();
             Checks.yes("a text is taken", Checks.tell(x, texts[run % texts.length]) >= 0);
-            for (int i = 0; i < 700; i++) {
+            for (int i = 0; i < 380; i++) {
                 Method call = calls[random.nextInt(calls.length)];
                 Object[] numbers = new Object[call.getParameterCount()];
                 for (int j = 0; j < numbers.length; j++) {

@@ -1,27 +1,34 @@
+import java.util.ArrayList;
+import java.util.List;
 import java.util.Random;
 
 /** Runs of calls by fixed seeds on the class and on the model: every answer must be the same. */
 public final class ModelTest {
-    private static final int RUNS = 3000;
-    private static final int CALLS = 120;
+    private static final int RUNS = 12000;
+    /** What an object is promised for. */
+    private static final int MOST_CALLS = 512;
+    private static final int MOST_CALLS_OF_TEXTS = 300;
 
     private final Random random;
     private final WaryHouses x = new WaryHouses();
     private final Model m = new Model();
-    private final StringBuilder told = new StringBuilder();
+    private final List<Call> calls = new ArrayList<>();
+    private boolean same = true;
 
     private ModelTest(int seed) {
         random = new Random(seed);
     }
 
     public static void main(String[] args) {
+        Checks.begin("ModelTest");
         long[] reached = new long[18];
         int[] faults = new int[8];
         for (int seed = 0; seed < RUNS; seed++) {
             ModelTest test = new ModelTest(seed);
-            if (!test.play(faults)) {
-                System.out.println("by seed " + seed + ": " + test.told);
-                System.exit(1);
+            test.play(faults);
+            Checks.yes("the answers by seed " + seed, test.same);
+            if (!test.same) {
+                break;
             }
             for (int what = 8; what <= 17; what++) {
                 reached[what] += test.m.rule(what);
@@ -38,153 +45,107 @@ public final class ModelTest {
         Checks.finish("ModelTest");
     }
 
-    private boolean play(int[] faults) {
+    private void play(int[] faults) {
         boolean taken = false;
-        for (int i = 0; i < 6 && !taken; i++) {
+        while (!taken && calls.size() < MOST_CALLS_OF_TEXTS) {
             String text = randomText();
-            if (random.nextInt(3) == 0) {
-                text = spoiled(text);
-            }
-            told.append("\n\"").append(text).append('"');
-            if (!sameText(text)) {
-                return false;
-            }
+            putText(random.nextInt(3) == 0 ? spoiled(text) : text);
             faults[m.fault()]++;
             taken = m.fault() == 0;
         }
-        for (int i = 0; i < CALLS; i++) {
-            if (!sameCall() || i % 20 == 0 && !sameState()) {
-                return false;
+        while (same && calls.size() < MOST_CALLS) {
+            if (random.nextInt(3) == 0) {
+                act();
+            } else {
+                ask();
             }
         }
-        return sameState();
     }
 
-    private boolean same(String call, int got, int want) {
+    /** Puts a call to both, if the object still serves for it. */
+    private void put(String name, int... numbers) {
+        if (!same || calls.size() >= MOST_CALLS) {
+            return;
+        }
+        Call call = new Call(name, numbers);
+        calls.add(call);
+        int want = call.of(m);
+        int got = call.of(x);
         if (got != want) {
-            told.append('\n').append(call).append(" answered ").append(got).append(", the model ").append(want);
+            same = false;
+            System.out.println(calls + " answered " + got + " at last, the model " + want);
         }
-        return got == want;
     }
 
-    private boolean sameText(String text) {
+    private void putText(String text) {
         for (int i = 0; i < text.length(); i++) {
-            int c = text.charAt(i);
-            if (!same("feed", x.feed(c), m.feed(c))) {
-                return false;
-            }
+            put("feed", text.charAt(i));
         }
         if (random.nextInt(10) == 0) {
-            int n = random.nextInt(text.length() + 3) - 1;
-            if (!same("end(" + n + ")", x.end(n), m.end(n))) {
-                return false;
-            }
+            put("end", random.nextInt(text.length() + 3) - 1);
         }
-        return same("text()", x.text(), m.text()) && same("fault()", x.fault(), m.fault());
+        put("text");
+        put("fault");
     }
 
-    private boolean sameCall() {
-        int h = inside(5);
-        int a = inside(32);
-        int b = inside(32);
+    private void act() {
         int n = random.nextInt(12) - 1;
-        String call = "(" + h + ", " + a + ", " + b + ", " + n + ")";
-        int kind = random.nextInt(20);
-        told.append('\n').append(kind).append(call);
-        switch (kind) {
-            case 0, 1, 2, 3, 4:
-                return same("send" + call, x.send(h, a, b), m.send(h, a, b));
-            case 5, 6:
-                return same("tick" + call, x.tick(1), m.tick(1));
-            case 7:
-                return same("tick" + call, x.tick(n * 2), m.tick(n * 2));
-            case 8:
-                return same("run" + call, x.run(n * 6), m.run(n * 6));
-            case 9, 10:
-                return same("set" + call, x.set(h, n % 3), m.set(h, n % 3));
-            case 11, 12, 13:
-                int seed = random.nextInt();
-                return same("draw" + call + seed, x.draw(seed, n), m.draw(seed, n));
-            case 14:
-                return same("keep" + call, x.keep(n % 3), m.keep(n % 3));
-            case 15:
-                return same("back" + call, x.back(n % 3), m.back(n % 3));
-            case 16:
-                int k = random.nextInt(5);
-                int lane = random.nextInt(5) / 2;
-                return same("sheet" + call, x.sheet(k, lane, n * 4), m.sheet(k, lane, n * 4));
-            case 17:
-                return sameLay();
-            case 18:
-                int of = random.nextInt(5);
-                int type = random.nextInt(5) / 2;
-                int first = random.nextInt(6) - 1;
-                return same("post" + call, x.post(of, type, first, n % 8), m.post(of, type, first, n % 8));
-            default:
-                return same("count" + call, x.count(n % 4), m.count(n % 4));
+        switch (random.nextInt(20)) {
+            case 0, 1, 2, 3, 4 -> put("send", inside(5), inside(32), inside(32));
+            case 5, 6 -> put("tick", 1);
+            case 7 -> put("tick", n * 2);
+            case 8 -> put("run", n * 6);
+            case 9, 10 -> put("set", inside(5), n % 3);
+            case 11, 12, 13 -> put("draw", random.nextInt(), n);
+            case 14 -> put("keep", n % 3);
+            case 15 -> put("back", n % 3);
+            case 16 -> put("sheet", random.nextInt(5), random.nextInt(5) / 2, n * 4);
+            case 17 -> lay();
+            case 18 -> put("post", random.nextInt(5), random.nextInt(5) / 2, random.nextInt(6) - 1, n % 8);
+            default -> sendMany();
         }
     }
 
-    private boolean sameLay() {
+    private void lay() {
         int k = random.nextInt(5);
-        for (int i = -1; i <= 40; i++) {
+        int first = random.nextInt(5) - 1;
+        for (int i = first; i < first + 9; i++) {
             int v = random.nextInt(40) == 0 ? random.nextInt(600) - 300 : random.nextInt(i % 3 == 0 ? 3 : 32);
-            if (!same("lay(" + k + ", " + i + ", " + v + ")", x.lay(k, i, v), m.lay(k, i, v))) {
-                return false;
-            }
+            put("lay", k, i, v);
         }
-        return true;
+    }
+
+    /** Of few sorts, so that what is rare comes about: doubles, strangers that come again, no room. */
+    private void sendMany() {
+        int h = inside(5);
+        int from = random.nextInt(32);
+        int to = random.nextInt(16);
+        int most = random.nextInt(8) == 0 ? 60 : 9;
+        for (int i = random.nextInt(most); i >= 0; i--) {
+            put("send", h, from, to + random.nextInt(2));
+        }
+    }
+
+    private void ask() {
+        int h = inside(5);
+        switch (random.nextInt(14)) {
+            case 0, 1 -> put("rule", inside(18));
+            case 2 -> put("house", h, inside(6));
+            case 3 -> put("receiver", inside(4), inside(3), inside(3));
+            case 4 -> put("address", inside(32), inside(4));
+            case 5 -> put("leads", inside(32), inside(4));
+            case 6 -> put("reaches", inside(32), inside(4));
+            case 7, 8 -> put("item", h, inside(Math.max(1, m.house(h, 2))), inside(7));
+            case 9 -> put("asks", h, inside(4), inside(3));
+            case 10, 11 -> put("stranger", h, inside(Math.max(1, m.house(h, 3))), inside(5));
+            case 12 -> put("log", random.nextInt(63) - 1, inside(5));
+            default -> put("count", random.nextInt(5) - 1);
+        }
     }
 
     /** Mostly a number that there may be, now and then one beside. */
     private int inside(int n) {
         return random.nextInt(30) == 0 ? random.nextInt(2 * n) - n / 2 : random.nextInt(n);
-    }
-
-    private boolean sameState() {
-        boolean same = true;
-        for (int what = -1; what <= 18; what++) {
-            same &= same("rule(" + what + ")", x.rule(what), m.rule(what));
-        }
-        for (int a = -1; a <= 32; a++) {
-            for (int i = -1; i <= 4; i++) {
-                same &= same("address(" + a + ", " + i + ")", x.address(a, i), m.address(a, i));
-                same &= same("leads(" + a + ", " + i + ")", x.leads(a, i), m.leads(a, i));
-                same &= same("reaches(" + a + ", " + i + ")", x.reaches(a, i), m.reaches(a, i));
-            }
-        }
-        for (int i = -1; i <= 60; i++) {
-            for (int what = -1; what <= 5; what++) {
-                same &= same("log(" + i + ", " + what + ")", x.log(i, what), m.log(i, what));
-            }
-        }
-        for (int d = -1; d <= 4; d++) {
-            for (int i = -1; i <= 3; i++) {
-                for (int what = -1; what <= 3; what++) {
-                    same &= same("receiver", x.receiver(d, i, what), m.receiver(d, i, what));
-                }
-            }
-        }
-        return same && sameHouses();
-    }
-
-    private boolean sameHouses() {
-        boolean same = true;
-        for (int h = -1; h <= 5; h++) {
-            for (int what = -1; what <= 7; what++) {
-                same &= same("house(" + h + ", " + what + ")", x.house(h, what), m.house(h, what));
-                for (int i = -1; i <= Math.max(8, m.house(h, 2)); i++) {
-                    String call = "(" + h + ", " + i + ", " + what + ")";
-                    same &= same("item" + call, x.item(h, i, what), m.item(h, i, what));
-                    same &= same("stranger" + call, x.stranger(h, i, what), m.stranger(h, i, what));
-                }
-                for (int i = -1; i <= 3; i++) {
-                    int d = what;
-                    same &= same("asks(" + h + ", " + d + ", " + i + ")", x.asks(h, d, i), m.asks(h, d, i));
-                }
-            }
-        }
-        return same;
     }
 
     private String randomText() {

@@ -4,6 +4,7 @@ public final class PlanTest {
             + "box 0 1;alias 0 2 0 1;list 1 0 0 1 0 2 1 3 1 0;box 1 3;";
 
     public static void main(String[] args) {
+        Checks.begin("PlanTest");
         rules();
         houses();
         receivers();

@@ -4,6 +4,7 @@ public final class SeedTest {
             + "list 1 0 0 1 0 3 1 2;";
 
     public static void main(String[] args) {
+        Checks.begin("SeedTest");
         refusedDraws();
         knownSeed();
         seeds();
@@ -84,67 +85,79 @@ public final class SeedTest {
     }
 
     private static void images() {
-        WaryHouses x = Checks.told(9, TEXT);
-        x.draw(3, 10);
-        x.tick(2);
+        WaryHouses x = drawn(3);
         Checks.due("keep(0)", x.keep(0), 0);
         Checks.due("keep(0)", x.keep(0), 1);
         Checks.due("count(0)", x.count(0), 1);
-        int[] then = all(x);
         x.feed('x');
         x.sheet(0, 1, 5);
+        int items = x.rule(7);
         x.run(60);
-        x.set(1, 0);
-        int[] later = all(x);
         Checks.due("keep(1)", x.keep(1), 0);
         Checks.due("count(0)", x.count(0), 2);
-        Checks.due("back(0)", x.back(0), x.rule(7));
-        same("behind back(0)", then, all(x));
+        Checks.due("back(0)", x.back(0), items);
         Checks.due("count(1), not of the image", x.count(1), 1);
         Checks.due("count(2), not of the image", x.count(2), 5);
         Checks.due("count(0), images stay", x.count(0), 2);
-        x.back(1);
-        same("behind back(1)", later, all(x));
-        x.back(0);
-        same("behind back(0) again", then, all(x));
+        Checks.due("back(1)", x.back(1), 0);
+        Checks.due("back(0) again", x.back(0), items);
     }
 
     /** What is done behind keep() or back() does not change the image. */
     private static void imagesAreApart() {
-        WaryHouses x = Checks.told(9, TEXT);
-        x.draw(11, 10);
+        int[] then = Snapshot.of(() -> broughtBack(0));
+        for (int times = 1; times <= 3; times++) {
+            int n = times;
+            Snapshot.same("behind back(0), " + n + " times", then, Snapshot.of(() -> broughtBack(n)));
+        }
+    }
+
+    private static WaryHouses broughtBack(int times) {
+        WaryHouses x = drawn(11);
         x.keep(0);
-        int[] then = all(x);
-        for (int i = 0; i < 3; i++) {
+        for (int i = 0; i < times; i++) {
             x.tick(4);
             x.set(2, 0);
             x.draw(i, 5);
             x.tick(3);
-            Checks.due("back(0)", x.back(0), 10);
-            same("behind back(0), time " + i, then, all(x));
+            x.back(0);
         }
+        return x;
     }
 
     /** All goes on from an image as it went on from what it is an image of. */
     private static void imageHasAll() {
         for (int ticks = 1; ticks <= 20; ticks++) {
-            WaryHouses x = Checks.told(9, TEXT);
-            x.draw(ticks, 10);
-            for (int i = 0; i < 8; i++) {
-                x.send(2, i, 1);
-            }
-            x.tick(ticks);
-            x.set(1, ticks % 2);
-            x.keep(1);
+            int n = ticks;
+            Snapshot.same("on from an image at " + n, Snapshot.of(() -> onFromAnImage(n, false)),
+                    Snapshot.of(() -> onFromAnImage(n, true)));
+        }
+    }
+
+    private static WaryHouses onFromAnImage(int ticks, boolean back) {
+        WaryHouses x = drawn(ticks);
+        for (int i = 0; i < 8; i++) {
+            x.send(2, i, 1);
+        }
+        x.tick(ticks);
+        x.set(1, ticks % 2);
+        x.keep(1);
+        if (back) {
             x.tick(5);
-            int[] want = all(x);
             x.draw(1, 10);
             x.set(1, 1);
             x.run(60);
             x.back(1);
-            x.tick(5);
-            same("on from an image at " + ticks, want, all(x));
         }
+        x.tick(5);
+        return x;
+    }
+
+    private static WaryHouses drawn(int seed) {
+        WaryHouses x = Scenes.of(TEXT);
+        x.draw(seed, 10);
+        x.tick(2);
+        return x;
     }
 
     /** The strangers of the first house, too. */
@@ -159,46 +172,5 @@ public final class SeedTest {
         x.back(1);
         Checks.due("house(0, 3)", x.house(0, 3), 1);
         Checks.due("stranger(0, 0, 1)", x.stranger(0, 0, 1), 7);
-    }
-
-    private static void same(String when, int[] want, int[] got) {
-        Checks.due("how many numbers " + when, got.length, want.length);
-        for (int i = 0; i < want.length; i++) {
-            Checks.due("number " + i + " of all " + when, got[i], want[i]);
-        }
-    }
-
-    /** All that can be asked of what is in an image. */
-    private static int[] all(WaryHouses x) {
-        java.util.ArrayList<Integer> all = new java.util.ArrayList<>();
-        for (int what = 0; what <= 17; what++) {
-            all.add(x.rule(what));
-        }
-        for (int h = 0; h < 3; h++) {
-            for (int what = 0; what <= 5; what++) {
-                all.add(x.house(h, what));
-            }
-            for (int i = 0; i < 60; i++) {
-                for (int what = 0; what <= 6; what++) {
-                    all.add(x.item(h, i, what));
-                }
-            }
-            for (int i = 0; i < 8; i++) {
-                for (int what = 0; what <= 4; what++) {
-                    all.add(x.stranger(h, i, what));
-                }
-            }
-        }
-        for (int a = 0; a < 32; a++) {
-            for (int what = 0; what <= 3; what++) {
-                all.add(x.address(a, what));
-            }
-        }
-        for (int i = 0; i < 60; i++) {
-            for (int what = 0; what <= 4; what++) {
-                all.add(x.log(i, what));
-            }
-        }
-        return all.stream().mapToInt(Integer::intValue).toArray();
     }
 }

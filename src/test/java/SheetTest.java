@@ -1,6 +1,7 @@
 /** Promises 23 to 26: sheets, letters from them, counts. */
 public final class SheetTest {
     public static void main(String[] args) {
+        Checks.begin("SheetTest");
         newSheets();
         laying();
         posting();

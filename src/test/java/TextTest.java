@@ -1,6 +1,7 @@
 /** Promises 1 to 5: a new object, the tape, the text and its first fault. */
 public final class TextTest {
     public static void main(String[] args) {
+        Checks.begin("TextTest");
         newObject();
         feeding();
         ending();
