@@ -927,7 +927,7 @@ public final class WaryHouses {
         }
 
         Item add(int at, int letter, int from, int to, int due) {
-            int free = Math.min(used, rows.length - 1);
+            int free = used < rows.length ? used : rows.length - 1;
             Item item = rows[free];
             item.at = at;
             item.letter = letter;

@@ -5,7 +5,7 @@ import java.util.function.IntUnaryOperator;
 final class Checks {
     static final int BAD = -1, STATE = -2, FULL = -3, NONE = -4;
 
-    private static final int MOST_SECONDS = 400;
+    private static final int MOST_SECONDS = 200;
 
     private static final Doc DOC = new Doc();
     private static String sentence = "";

@@ -24,7 +24,8 @@ final class Doc {
         }
         try {
             String text = plain(Files.readString(FILE));
-            parts.put(TERMS, part(text, "Answers: BAD", "Ahead of the calls"));
+            parts.put(TERMS, part(text, "An object is used", "## The public face")
+                    + part(text, "Answers: BAD", "Ahead of the calls"));
             for (int n = 1; n <= PROMISES; n++) {
                 parts.put(n, part(text, "## Promise " + n + ":", n < PROMISES ? "## Promise " + (n + 1) + ":" : "## Not"));
             }

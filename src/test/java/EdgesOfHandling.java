@@ -29,6 +29,7 @@ final class EdgesOfHandling {
         asksThoseOfLess();
         takenByTheFirst();
         fiveTries();
+        noneOfThreeTakesIt();
         triesBeginAnew();
         bouncesOfNothing();
         bounceIsALetter();
@@ -174,6 +175,12 @@ final class EdgesOfHandling {
         Checks.due("rule(11)", x.rule(11), 1);
         Checks.due("address(0, 1)", x.address(0, 1), 8);
         Checks.due("address(2, 1)", x.address(2, 1), 13);
+        WaryHouses far = Checks.told(8, "house;domain;domain;domain;domain 0 0;box 3 7;alias 3 1 3 7;list 3 0 3 7 3 1;");
+        far.send(0, 9, 26);
+        far.send(0, 9, 24);
+        Checks.due("tick(3), the last box", far.tick(3), 1);
+        Checks.due("rule(11), the last box", far.rule(11), 1);
+        Checks.due("address(31, 2)", far.address(31, 2), 1);
         WaryHouses both = Checks.told(5, "house;domain 0 0;box 0 0;box 0 1;list 0 2 0 0 0 1;");
         both.send(0, 5, 2);
         Checks.due("tick(2): one letter, two boxes", both.tick(2), 2);
@@ -501,6 +508,23 @@ final class EdgesOfHandling {
         Checks.item(x, 0, 0, 1, NONE, 9, 0, 0, 17, 0);
         Checks.log(x, 5, 7, 16, 0, 0, 0);
         Checks.due("log(6, 0)", x.log(6, 0), NONE);
+    }
+
+    private static void noneOfThreeTakesIt() {
+        Checks.of(0, "If none does, it has a TRY more: by the 5th it BOUNCES; else it is DUE 1, 2, 4, 8 TICKS later (by the 1st to 4th),"
+                + " it stays.");
+        WaryHouses wary = Checks.told(5, "house;house wary;house wary;house wary;domain 3 0 2 0 1 0;");
+        wary.send(0, 9, 0);
+        wary.tick(1);
+        Checks.item(wary, 0, 0, 0, 9, 0, 1, 0, 2, 0);
+        Checks.answers("house(h, 3), all were asked", h -> wary.house(h, 3), 0, 1, 1, 1);
+        WaryHouses down = Checks.told(5, "house;house;house;house;domain 3 0 2 1 1 2;");
+        down.set(1, 0);
+        down.set(2, 0);
+        down.set(3, 0);
+        down.send(0, 9, 0);
+        down.tick(1);
+        Checks.item(down, 0, 0, 0, 9, 0, 1, 0, 2, 0);
     }
 
     /** Of a letter of nothing the 5th try is DEAD; of an item that stayed DOWN the ticks are counted from when it is handled. */

@@ -1,3 +1,4 @@
+import java.util.function.Supplier;
 import java.util.function.UnaryOperator;
 
 /** Promises 20 to 22: letters by a seed, images. */
@@ -173,11 +174,31 @@ final class EdgesOfImages {
         int[] later = Snapshot.of(() -> ticked(kept(x -> x)));
         Snapshot.same("on from an image", later, Snapshot.of(() -> ticked(kept(EdgesOfImages::ticked))));
         Snapshot.same("on from an image, again", later, Snapshot.of(() -> ticked(kept(EdgesOfImages::backTwice))));
+        wayBack("wary", Scenes::wary);
+        wayBack("full", Scenes::full);
+        wayBack("marked", Scenes::marked);
         WaryHouses x = Scenes.busy();
         x.keep(0);
         x.run(60);
         Checks.due("back(0)", x.back(0), 2);
         Checks.due("rule(7)", x.rule(7), 2);
+    }
+
+    private static void wayBack(String scene, Supplier<WaryHouses> maker) {
+        int[] then = Snapshot.of(() -> {
+            WaryHouses x = maker.get();
+            x.keep(0);
+            return x;
+        });
+        Snapshot.same("from elsewhere, " + scene, then, Snapshot.of(() -> {
+            WaryHouses x = maker.get();
+            x.keep(0);
+            drawn(x);
+            x.run(60);
+            drawn(x);
+            x.back(0);
+            return x;
+        }));
     }
 
     private static WaryHouses kept(UnaryOperator<WaryHouses> between) {

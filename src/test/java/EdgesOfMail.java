@@ -7,6 +7,7 @@ final class EdgesOfMail {
     }
 
     static void check() {
+        manyCalls();
         numbersOfLetters();
         itemsOfALetter();
         sixtyItems();
@@ -30,6 +31,24 @@ final class EdgesOfMail {
         itemOfNothing();
         itemBeside();
         logBeside();
+    }
+
+    /** The text is 26 calls. */
+    private static void manyCalls() {
+        Checks.of(0, "An object is used for at most 512 calls after it has been made; what later calls answer is free.");
+        WaryHouses x = Scenes.of(ONE);
+        for (int i = 0; i < (512 - 26) / 2; i++) {
+            Checks.due("send", x.send(0, 31, 0), i);
+            Checks.due("tick", x.tick(20), 1);
+        }
+        WaryHouses far = Scenes.of(ONE);
+        far.set(0, 0);
+        far.send(0, 0, 0);
+        for (int i = 28; i < 510; i++) {
+            Checks.due("run", far.run(60), 60);
+        }
+        Checks.due("rule(5), the 511th call", far.rule(5), 60 * 482);
+        Checks.due("item(0, 0, 5), the 512th call", far.item(0, 0, 5), 1);
     }
 
     private static void numbersOfLetters() {

@@ -177,6 +177,14 @@ final class EdgesOfPlan {
         x.send(0, 0, 0);
         x.tick(1);
         Checks.answers("address(0, what), from address 0", what -> x.address(0, what), 1, 32, 32, 0);
+        WaryHouses last = Checks.told(7, "house;domain;domain;domain;domain 0 0;box 3 7;box 3 6;");
+        for (int i = 0; i < 20; i++) {
+            last.send(0, i, i % 2 == 0 ? 31 : 30);
+            last.tick(1);
+            int even = i - i % 2;
+            Checks.answers("address(31, what)", what -> last.address(31, what), 1, even / 2 + 1, even, even);
+        }
+        Checks.answers("address(30, what)", what -> last.address(30, what), 1, 10, 19, 19);
         WaryHouses lists = Checks.told(4, "domain;list 0 0 0 0;list 0 1 0 0 0 1 0 2;list 0 2 0 0 0 1 0 2 0 3;");
         Checks.answers("address(a, 1) of lists", a -> lists.address(a, 1), 1, 3, 4);
     }
@@ -251,6 +259,9 @@ final class EdgesOfPlan {
                 + "alias 0 2 0 1;");
         Checks.row("reaches(1, i), by number", i -> order.reaches(1, i), 0, 7, 9, 31);
         Checks.row("reaches(2, i), by an alias", i -> order.reaches(2, i), 0, 7, 9, 31);
+        WaryHouses ends = Checks.told(7, "domain;domain;domain;domain;list 0 0 3 7 1 1;alias 3 7 0 0;box 1 1;");
+        Checks.row("reaches(0, i), from the first", i -> ends.reaches(0, i), 9);
+        Checks.row("reaches(31, i), from the last", i -> ends.reaches(31, i), 9);
         WaryHouses twice = Checks.told(6, "domain;box 0 0;alias 0 1 0 0;alias 0 2 0 1;list 0 3 0 0 0 1 0 2 0 4;list 0 4 0 3 0 0;");
         Checks.row("reaches(3, i), one box by many ways", i -> twice.reaches(3, i), 0);
         Checks.row("reaches(4, i), lists of one another", i -> twice.reaches(4, i), 0);

@@ -21,6 +21,8 @@ final class EdgesOfStrangers {
         ninthPutDown();
         theOneThatPassedGoes();
         anewIsTheLatest();
+        anewAtEachPlace();
+        ninthHasNotPassed();
         eachHouseForItself();
         strangerOfNone();
         strangerBeside();
@@ -268,6 +270,50 @@ final class EdgesOfStrangers {
         x.send(0, 11, 0);
         x.tick(1);
         Checks.row("stranger(1, i, 1), another goes", i -> x.stranger(1, i, 1), 21, 22, 23, 24, 25, 26, 10, 11);
+    }
+
+    /** Of eight the one at each place is put down anew, the others stay as they were, passed or not. */
+    private static void anewAtEachPlace() {
+        Checks.of(0, "(one that is put down anew counts from then).");
+        for (int place = 0; place < 8; place++) {
+            WaryHouses x = Checks.told(5, "house;house wary;house;domain 1 0;box 0 0;");
+            for (int i = 0; i < 8; i++) {
+                x.send(i == place ? 2 : 0, 20 + i, 0);
+                x.tick(1);
+                x.set(2, i == place ? 0 : x.house(2, 1));
+            }
+            x.tick(20);
+            x.tick(1);
+            Checks.due("house(1, 4), all but one", x.house(1, 4), 7);
+            x.set(2, 1);
+            x.tick(1);
+            for (int i = 0; i < 7; i++) {
+                int was = i < place ? i : i + 1;
+                Checks.stranger(x, 1, i, 0, 20 + was, 0, 1 + was, 1);
+            }
+            Checks.stranger(x, 1, 7, 2, 20 + place, 0, 30, 0);
+            Checks.due("house(1, 3)", x.house(1, 3), 8);
+        }
+    }
+
+    /** Where others that passed have stood, one that is put down has not. */
+    private static void ninthHasNotPassed() {
+        Checks.of(0, "Is it not known: it is put down with CLOCK, not taken.");
+        WaryHouses x = Checks.told(4, TWO);
+        for (int i = 0; i < 8; i++) {
+            x.send(0, 20 + i, 0);
+        }
+        x.tick(4);
+        Checks.due("house(1, 4)", x.house(1, 4), 8);
+        x.send(0, 9, 0);
+        x.tick(1);
+        Checks.stranger(x, 1, 7, 0, 9, 0, 5, 0);
+        Checks.due("house(1, 4)", x.house(1, 4), 7);
+        Checks.due("house(0, 2), not taken", x.house(0, 2), 1);
+        Checks.tell(x, TWO);
+        x.send(0, 20, 0);
+        x.tick(1);
+        Checks.stranger(x, 1, 0, 0, 20, 0, 1, 0);
     }
 
     private static void eachHouseForItself() {

@@ -3,6 +3,9 @@ final class EdgesOfText {
     private static final String HOUSES = "house;house;house;house;house;";
     private static final String DOMAINS = "domain;domain;domain;domain;";
 
+    private static final String[] LINES = {"house ;", "house wary ;", "domain ;", "domain 0 0 1 1 2 2 ;", "box 0 0 ;",
+        "alias 0 0 1 1 ;", "list 0 0 0 1 0 2 0 3 0 4 ;"};
+
     private EdgesOfText() {
     }
 
@@ -149,6 +152,8 @@ final class EdgesOfText {
 
     private static void noToken() {
         Checks.of(0, "1 no TOKEN,");
+        everywhere(".");
+        everywhere("HOUSE");
         Checks.refused(".", 1, 0);
         Checks.refused("house.;", 1, 5);
         Checks.refused("house .", 1, 6);
@@ -169,8 +174,24 @@ final class EdgesOfText {
         Checks.refused("list 0 0 0 0 0 1 0 2 0 3.", 1, 24);
     }
 
+    /** At every place of every line, and behind its last token. */
+    private static void everywhere(String token) {
+        for (String line : LINES) {
+            StringBuilder ahead = new StringBuilder();
+            for (String next : line.split(" ")) {
+                Checks.refused(ahead + token, 1, ahead.length());
+                Checks.refused(ahead + token + " ; house ;", 1, ahead.length());
+                Checks.refused(ahead + token + " " + next + " 0 0 ;", 1, ahead.length());
+                ahead.append(next).append(' ');
+            }
+            Checks.refused(ahead + token + ";", 1, ahead.length());
+        }
+    }
+
     private static void tooLong() {
         Checks.of(0, "a NUMBER that is too long (its first byte).");
+        everywhere("000");
+        everywhere("123456789");
         Checks.refused("domain;box 0 000;", 1, 13);
         Checks.refused("domain;box 0 007;", 1, 13);
         Checks.refused("domain 123 0;", 1, 7);
@@ -187,9 +208,7 @@ final class EdgesOfText {
     /** Every text that ends within a line, with and without blanks behind. */
     private static void linesCutShort() {
         Checks.of(0, "or the end: the length).");
-        String[] lines = {"house ;", "house wary ;", "domain ;", "domain 0 0 1 1 2 2 ;", "box 0 0 ;", "alias 0 0 1 1 ;",
-            "list 0 0 0 1 0 2 0 3 0 4 ;"};
-        for (String line : lines) {
+        for (String line : LINES) {
             String[] tokens = line.split(" ");
             StringBuilder text = new StringBuilder(tokens[0]);
             for (int i = 1; i < tokens.length; i++) {
@@ -231,6 +250,15 @@ final class EdgesOfText {
             Checks.refused(name, 2, 0);
             Checks.refused(name + " 0 0;", 2, 0);
             Checks.refused("house; " + name, 2, 7);
+        }
+        for (String name : new String[] {"house", "domain", "box", "alias", "list"}) {
+            for (int i = 0; i < name.length(); i++) {
+                Checks.refused(name.substring(0, i) + "q" + name.substring(i + 1) + " 0 0;", 2, 0);
+                Checks.refused("house;" + name.substring(0, i) + name.substring(i + 1) + ";", 2, 6);
+            }
+        }
+        for (String name : new String[] {"qary", "wqry", "waqy", "warq", "war", "waryy", "ary"}) {
+            Checks.refused("house " + name + ";", 2, 6);
         }
         Checks.refused(";", 2, 0);
         Checks.refused("house;;", 2, 6);
@@ -440,6 +468,14 @@ final class EdgesOfText {
         Checks.due("post(0, 0, 0, 2), with their cells", x.post(0, 0, 0, 2), 2);
         Checks.item(x, 0, 0, 0, 3, 0, 0, 0, 1, 0);
         Checks.item(x, 0, 1, 1, 0, 9, 0, 0, 1, 0);
+        WaryHouses wary = Scenes.wary();
+        Checks.answers("house(h, 3)", h -> wary.house(h, 3), 1, 1, 1, 1, 1);
+        Checks.tell(wary, Scenes.WARY);
+        Checks.answers("house(h, 3), anew", h -> wary.house(h, 3), 0, 0, 0, 0, 0);
+        Checks.answers("house(h, 2), anew", h -> wary.house(h, 2), 0, 0, 0, 0, 0);
+        wary.send(2, 5, 0);
+        wary.tick(1);
+        Checks.stranger(wary, 0, 0, 2, 5, 0, 1, 0);
         WaryHouses empty = Scenes.busy();
         empty.end(0);
         empty.text();

@@ -3,6 +3,8 @@ final class Scenes {
     static final String BUSY = "house;house wary;domain 0 0;domain 1 0;box 0 0;box 1 0;alias 0 1 0 0;"
             + "list 0 2 0 0 0 1 1 0;";
 
+    static final String WARY = "house wary;house wary;house wary;house wary;house wary;domain 0 0 1 1;domain 2 0 3 1 4 2;";
+
     private Scenes() {
     }
 
@@ -41,6 +43,28 @@ final class Scenes {
         feedQuietly(x, "house;box");
         x.text();
         feedQuietly(x, "house;domain;");
+        return x;
+    }
+
+    /** Every house is wary and knows a stranger, those of houses 0 to 2 PASSED; items in houses 0 and 2. Some 130 calls. */
+    static WaryHouses wary() {
+        WaryHouses x = of(WARY);
+        x.send(2, 5, 0);
+        x.send(0, 6, 8);
+        x.set(0, 0);
+        x.tick(4);
+        x.set(0, 1);
+        x.tick(4);
+        return x;
+    }
+
+    /** Items that have one, two and no MARKS, TRIES and HOPS. Some 100 calls. */
+    static WaryHouses marked() {
+        WaryHouses x = of("house;house;domain 0 0;domain 1 0;list 0 0 0 1 1 0;list 0 1 1 1 0 2;alias 0 2 0 3;");
+        x.set(1, 0);
+        x.send(0, 5, 0);
+        x.tick(3);
+        x.send(0, 6, 9);
         return x;
     }
 
